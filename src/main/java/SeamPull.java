@@ -578,7 +578,6 @@ public final class SeamPull {
         private int start = 0;
         private int end = 0;
         private int sort = END;
-        private int number = 0;
 
         boolean hasRoom(int n) {
             return n <= MOST_BYTES - size;
@@ -610,42 +609,24 @@ public final class SeamPull {
             while (start < size && (bytes[start] == ' ' || bytes[start] == '\n')) {
                 start++;
             }
-            end = start;
-            if (start >= size) {
-                sort = END;
-            } else if (isLetter(bytes[start])) {
-                takeName();
-            } else if (isFigure(bytes[start])) {
-                takeFigures();
-            } else {
-                sort = bytes[start] == ';' ? SIGN : NO_TOKEN;
-                end = start + 1;
-            }
-        }
-
-        private void takeName() {
-            while (end < size && isLetter(bytes[end])) {
+            sort = start < size ? sortOf(bytes[start]) : END;
+            end = start < size ? start + 1 : start;
+            while (end < size && (sort == NAME || sort == NUMBER) && sortOf(bytes[end]) == sort) {
                 end++;
             }
-            sort = NAME;
-        }
-
-        private void takeFigures() {
-            number = 0;
-            while (end < size && isFigure(bytes[end])) {
-                // What a third figure adds is never looked at, and must not wrap around.
-                number = end - start < MOST_FIGURES ? number * 10 + bytes[end] - '0' : number;
-                end++;
+            if (sort == NUMBER && end - start > MOST_FIGURES) {
+                sort = NO_TOKEN;
             }
-            sort = end - start <= MOST_FIGURES ? NUMBER : NO_TOKEN;
         }
 
-        private static boolean isLetter(int sign) {
-            return sign >= 'a' && sign <= 'z';
-        }
-
-        private static boolean isFigure(int sign) {
-            return sign >= '0' && sign <= '9';
+        private static int sortOf(int sign) {
+            if (sign >= 'a' && sign <= 'z') {
+                return NAME;
+            }
+            if (sign >= '0' && sign <= '9') {
+                return NUMBER;
+            }
+            return sign == ';' ? SIGN : NO_TOKEN;
         }
 
         private boolean spells(String text) {
@@ -700,6 +681,14 @@ public final class SeamPull {
 
         boolean atNumber() {
             return sort == NUMBER;
+        }
+
+        int numberHere() {
+            int number = 0;
+            for (int i = start; i < end && sort == NUMBER; i++) {
+                number = number * 10 + bytes[i] - '0';
+            }
+            return number;
         }
 
         boolean atSign() {
@@ -789,7 +778,7 @@ public final class SeamPull {
                 return fault;
             }
             int former = taken;
-            if (tape.atNumber() && tape.number == former) {
+            if (tape.atNumber() && tape.numberHere() == former) {
                 return NOT_AS_TOLD;
             }
             fault = takeNumber(0, into.seams - 1);
@@ -804,10 +793,10 @@ public final class SeamPull {
             if (!tape.atNumber()) {
                 return MISPLACED;
             }
-            if (tape.number < least || tape.number > most) {
+            taken = tape.numberHere();
+            if (taken < least || taken > most) {
                 return NOT_AS_TOLD;
             }
-            taken = tape.number;
             tape.toNext();
             return 0;
         }
