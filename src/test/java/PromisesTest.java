@@ -1,13 +1,8 @@
 /** For each promise of the document: ordinary inputs, the edges it names, wrong inputs. Worked out by hand. */
-public final class PromisesTest {
-    private static final int NONE = -1000000, BAD = -1000001, STATE = -1000002, FULL = -1000003;
-    private static final int NULL = -1000011, PLACE = -1000012, KIND = -1000013, SIZE = -1000014, STORE = -1000015;
-    private static final int LOW = Integer.MIN_VALUE, HIGH = Integer.MAX_VALUE;
+public final class PromisesTest extends Bench {
     private static final String[] BODIES = {
         "tack:10|21,20", "on:11,10,20|20", "back:12,11,10,20|20", "skip:13,12,11,10,20|20",
         "second:11,10,20|20", "turned:11,10,22,20|22,20", "flame:14,10|23,20,14,10"};
-    private static int wrong = 0, looked = 0;
-    private static int promise = 0;
 
     public static void main(String[] args) {
         newObject();
@@ -45,61 +40,11 @@ public final class PromisesTest {
         trace();
         count();
         status();
-        System.out.println("PromisesTest: " + looked + " answers, " + wrong + " not as due");
-        if (wrong != 0) {
-            System.exit(1);
-        }
-    }
-
-    private static void due(String what, int got, int want) {
-        looked++;
-        if (got != want) {
-            wrong++;
-            System.out.println("promise " + promise + ": " + what + " answered " + got + ", due is " + want);
-        }
-    }
-
-    private static void feedText(SeamPull x, String text) {
-        for (int i = 0; i < text.length(); i++) {
-            x.feed(text.charAt(i), 1);
-        }
-    }
-
-    private static SeamPull of(String text) {
-        SeamPull x = new SeamPull();
-        feedText(x, text);
-        due("plan " + text, x.plan() >= 0 ? 0 : 1, 0);
-        return x;
-    }
-
-    private static SeamPull ran(String text) {
-        SeamPull x = of(text);
-        x.runs();
-        return x;
-    }
-
-    private static void faulty(String text, int place, int number) {
-        SeamPull x = new SeamPull();
-        feedText(x, text);
-        due("plan " + text, x.plan(), -1000100 - place);
-        due("fault of " + text, x.fault(), number);
-        due("no plan of " + text, x.runs(), STATE);
-        due("tape behind " + text, x.count(5), 0);
-    }
-
-    private static void items(SeamPull x, int sheet, int from, int... values) {
-        for (int k = 0; k < values.length; k++) {
-            x.set(sheet, from + k, values[k]);
-        }
-    }
-
-    private static void bendIs(String acts, int cell, int bend) {
-        SeamPull x = ran("panel 4;seam " + acts + ";");
-        due("bend behind " + acts, x.cell(cell, 2), bend);
+        end("PromisesTest");
     }
 
     private static void newObject() {
-        promise = 1;
+        about("promise 1");
         SeamPull x = new SeamPull();
         for (int what = 0; what <= 5; what++) {
             due("count " + what, x.count(what), 0);
@@ -119,7 +64,7 @@ public final class PromisesTest {
     }
 
     private static void sheet() {
-        promise = 2;
+        about("promise 2");
         SeamPull x = of("panel 4;");
         due("whole", x.sheet(0, 2, 40), 40);
         due("empty", x.sheet(7, 0, 0), 0);
@@ -143,7 +88,7 @@ public final class PromisesTest {
     }
 
     private static void set() {
-        promise = 3;
+        about("promise 3");
         SeamPull x = new SeamPull();
         x.sheet(0, 0, 2);
         x.sheet(1, 1, 2);
@@ -168,7 +113,7 @@ public final class PromisesTest {
     }
 
     private static void copy() {
-        promise = 4;
+        about("promise 4");
         SeamPull x = of("panel 4;");
         x.sheet(0, 2, 6);
         items(x, 0, 0, 1, 3, 9, 27, 81, 243);
@@ -203,7 +148,7 @@ public final class PromisesTest {
     }
 
     private static void drop() {
-        promise = 5;
+        about("promise 5");
         SeamPull x = new SeamPull();
         x.sheet(0, 1, 7);
         x.sheet(1, 1, 0);
@@ -219,7 +164,7 @@ public final class PromisesTest {
     }
 
     private static void feed() {
-        promise = 6;
+        about("promise 6");
         SeamPull x = new SeamPull();
         due("n 0", x.feed(0, 0), BAD);
         due("n 9", x.feed(0, 9), BAD);
@@ -243,7 +188,7 @@ public final class PromisesTest {
     }
 
     private static void planReads() {
-        promise = 7;
+        about("promise 7");
         SeamPull x = new SeamPull();
         feedText(x, " panel\n 12 ;\nseam tack 0 1 on 11 20 back 5 07\nskip 00 9 second 1 1 turned 2 2 flame 3 3 wait 1"
             + " wait 30 clamp 4 free 11;seam;seam;seam;seam;seam;before 5 0;before 0 5;before 5 0; ");
@@ -270,7 +215,7 @@ public final class PromisesTest {
     }
 
     private static void planRefuses() {
-        promise = 7;
+        about("promise 7");
         faulty("", 0, 1);
         faulty(" \n", 2, 1);
         faulty("panel", 5, 1);
@@ -318,7 +263,7 @@ public final class PromisesTest {
     }
 
     private static void planRoom() {
-        promise = 7;
+        about("promise 7");
         String seams = "panel 4;seam;seam;seam;seam;seam;seam;";
         faulty(seams + "seam;", 38, 3);
         faulty(seams + "seam off;", 38, 3);
@@ -346,7 +291,7 @@ public final class PromisesTest {
     }
 
     private static void fault() {
-        promise = 8;
+        about("promise 8");
         SeamPull x = new SeamPull();
         due("before one", x.fault(), 0);
         feedText(x, "panel 4;");
@@ -363,7 +308,7 @@ public final class PromisesTest {
     }
 
     private static void act() {
-        promise = 9;
+        about("promise 9");
         SeamPull x = of("panel 9;seam;seam tack 0 1 on 1 2 back 2 3 skip 3 4;seam second 4 5 turned 5 6 flame 6 7;seam wait 30 clamp 8 free 7;");
         for (int a = 0; a < 7; a++) {
             due("kind", x.act(a, 0), a);
@@ -386,7 +331,7 @@ public final class PromisesTest {
     }
 
     private static void open() {
-        promise = 10;
+        about("promise 10");
         SeamPull x = of("panel 4;");
         due("first", x.open(3, 40), 0);
         due("then", x.open(3, -40), 40);
@@ -403,7 +348,7 @@ public final class PromisesTest {
     }
 
     private static void run() {
-        promise = 11;
+        about("promise 11");
         SeamPull x = new SeamPull();
         due("sheet 8", x.run(8, 0), BAD);
         due("sheet -1", x.run(-1, 0), BAD);
@@ -437,7 +382,7 @@ public final class PromisesTest {
     }
 
     private static void runs() {
-        promise = 12;
+        about("promise 12");
         due("no plan", new SeamPull().runs(), STATE);
         due("no seam", of("panel 4;").runs(), 0);
         SeamPull x = of("panel 4;seam on 1 4;");
@@ -457,7 +402,7 @@ public final class PromisesTest {
     }
 
     private static void steps() {
-        promise = 13;
+        about("promise 13");
         bendIs("on 1 7", 1, 7);
         bendIs("on 1 4 on 1 10", 1, 12);
         bendIs("tack 1 9", 1, 1);
@@ -492,7 +437,7 @@ public final class PromisesTest {
     }
 
     private static void heat() {
-        promise = 13;
+        about("promise 13");
         due("on", ran("panel 4;seam on 1 20;").cell(1, 0), 60);
         due("tack", ran("panel 4;seam tack 1 9;").cell(1, 0), 6);
         due("flame", ran("panel 4;seam flame 1 20;").cell(1, 0), 90);
@@ -510,7 +455,7 @@ public final class PromisesTest {
     }
 
     private static void clamps() {
-        promise = 13;
+        about("promise 13");
         bendIs("clamp 1 on 1 5 free 1", 1, 2);
         bendIs("clamp 1 on 1 5", 1, 2);
         bendIs("clamp 1 turned 1 5", 1, -2);
@@ -532,7 +477,7 @@ public final class PromisesTest {
     }
 
     private static void cell() {
-        promise = 13;
+        about("promise 13");
         SeamPull x = of("panel 5;seam on 1 4;");
         x.open(1, 7);
         due("heat at first", x.cell(1, 0), 0);
@@ -555,7 +500,7 @@ public final class PromisesTest {
     }
 
     private static void height() {
-        promise = 14;
+        about("promise 14");
         SeamPull x = new SeamPull();
         due("no plan ahead of bad", x.height(-1), STATE);
         x = of("panel 4;seam on 1 4 turned 2 9;");
@@ -574,7 +519,7 @@ public final class PromisesTest {
     }
 
     private static void minutes() {
-        promise = 15;
+        about("promise 15");
         SeamPull x = of("panel 4;seam on 1 4 wait 30 clamp 1 free 1;seam flame 0 1 wait 1;");
         due("ahead of a run", x.minutes(), 0);
         x.runs();
@@ -589,7 +534,7 @@ public final class PromisesTest {
     }
 
     private static void gives() {
-        promise = 16;
+        about("promise 16");
         SeamPull x = of("panel 4;seam on 1 4;seam turned 1 10;seam;");
         // by numbers -4: off 3; without 0: -10, 30 / 4; without 1: 4, 3
         due("ahead of a run", x.gives(0), 3 - 7);
@@ -612,7 +557,7 @@ public final class PromisesTest {
     }
 
     private static void best() {
-        promise = 17;
+        about("promise 17");
         SeamPull x = new SeamPull();
         due("bad ahead of state", x.best(-2), BAD);
         due("no plan", x.best(-1), STATE);
@@ -642,7 +587,7 @@ public final class PromisesTest {
     }
 
     private static void orders() {
-        promise = 18;
+        about("promise 18");
         due("no plan", new SeamPull().orders(), STATE);
         due("no seam", of("panel 4;").orders(), 1);
         due("one", of("panel 4;seam;").orders(), 1);
@@ -656,7 +601,7 @@ public final class PromisesTest {
     }
 
     private static void beforehand() {
-        promise = 19;
+        about("promise 19");
         due("no plan", new SeamPull().beforehand(0), BAD);
         SeamPull x = of("panel 4;seam on 0 7 clamp 2 on 2 9;seam flame 1 5 on 3 3 flame 3 5;");
         x.open(0, 33);
@@ -682,7 +627,7 @@ public final class PromisesTest {
     }
 
     private static void spots() {
-        promise = 20;
+        about("promise 20");
         SeamPull x = new SeamPull();
         due("p 0", x.spots(0, 0), BAD);
         due("p 21", x.spots(21, 0), BAD);
@@ -718,7 +663,7 @@ public final class PromisesTest {
     }
 
     private static void crack() {
-        promise = 21;
+        about("promise 21");
         SeamPull x = new SeamPull();
         due("cold 61", x.crack(61), BAD);
         due("cold -1", x.crack(-1), BAD);
@@ -734,7 +679,7 @@ public final class PromisesTest {
     }
 
     private static void warm() {
-        promise = 22;
+        about("promise 22");
         due("no plan", new SeamPull().warm(), STATE);
         SeamPull x = of("panel 12;seam on 7 20 on 3 20;");
         due("ahead of a run", x.warm(), 60);
@@ -747,7 +692,7 @@ public final class PromisesTest {
     }
 
     private static void wire() {
-        promise = 23;
+        about("promise 23");
         SeamPull x = new SeamPull();
         due("sheet 8", x.wire(8, 0, 0), BAD);
         due("sheet -1", x.wire(-1, 0, 0), BAD);
@@ -778,7 +723,7 @@ public final class PromisesTest {
     }
 
     private static void steel() {
-        promise = 23;
+        about("promise 23");
         SeamPull x = of("panel 4;seam on 1 4 turned 2 3;");
         x.sheet(0, 1, 5);
         due("ahead of a run all is flat", x.wire(0, 0, -1), 1);
@@ -809,7 +754,7 @@ public final class PromisesTest {
     }
 
     private static void kind() {
-        promise = 24;
+        about("promise 24");
         SeamPull x = allKinds();
         for (int a = 0; a < 7; a++) {
             due("kind", x.kind(a), a + 1);
@@ -824,7 +769,7 @@ public final class PromisesTest {
     }
 
     private static void as() {
-        promise = 25;
+        about("promise 25");
         SeamPull x = allKinds();
         // by acts: which of the kinds 0 to 7 it is
         String[] is = {"01", "02", "023", "0234", "025", "026", "07"};
@@ -846,7 +791,7 @@ public final class PromisesTest {
     }
 
     private static void ask() {
-        promise = 26;
+        about("promise 26");
         SeamPull x = allKinds();
         int[] sizes = {11, 13, 14, 32, 19, 11, -17};
         int[] marks = {100, 1, 2, 3, 4, -5, -11};
@@ -866,7 +811,7 @@ public final class PromisesTest {
     }
 
     private static void trace() {
-        promise = 27;
+        about("promise 27");
         SeamPull x = allKinds();
         for (int a = 0; a < 7; a++) {
             String[] asked = BODIES[a].substring(BODIES[a].indexOf(':') + 1).split("\\|");
@@ -885,7 +830,7 @@ public final class PromisesTest {
     }
 
     private static void count() {
-        promise = 28;
+        about("promise 28");
         SeamPull x = of("panel 7;seam on 0 1 wait 2;seam;seam;before 0 1;before 1 2;");
         x.sheet(3, 0, 0);
         x.sheet(5, 1, 9);
@@ -900,7 +845,7 @@ public final class PromisesTest {
     }
 
     private static void status() {
-        promise = 29;
+        about("promise 29");
         SeamPull x = of("panel 4;seam on 0 1;");
         x.drop(0);
         due("null", x.status(), 1);
