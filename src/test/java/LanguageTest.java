@@ -2,7 +2,9 @@ import java.nio.file.Files;
 import java.nio.file.Path;
 import java.util.ArrayList;
 import java.util.List;
+import java.util.Map;
 import java.util.Set;
+import java.util.TreeMap;
 import java.util.TreeSet;
 import java.util.regex.Matcher;
 import java.util.regex.Pattern;
@@ -90,6 +92,55 @@ public final class LanguageTest {
         }
     }
 
+    private static void classesAreFew(String code) {
+        List<String> classes = found("^ *(?:public |private |static |final )*class (\\w+)", code);
+        rule(11, classes.size() <= 12, "too many classes: " + classes);
+        for (String part : code.split("\\bclass \\w+ \\{")) {
+            List<String> fields = found("^ +private (?!static)(?:final )?[\\w\\[\\]]+ (\\w+)(?: =.*)?;", part);
+            rule(11, fields.size() <= 20, "too many fields: " + fields);
+        }
+    }
+
+    /** The lines of each method, those of one name together. */
+    private static Map<String, String> bodies(String code) {
+        Map<String, String> all = new TreeMap<>();
+        Pattern method = Pattern.compile("^( {4,8})(?:public |private |static |final )*[\\w\\[\\]]+ (\\w+)\\(.*\\) \\{");
+        String name = "", indent = "";
+        for (String line : code.split("\n")) {
+            Matcher m = method.matcher(line);
+            if (name.isEmpty() && m.find()) {
+                indent = m.group(1);
+                name = m.group(2);
+            } else if (line.equals(indent + "}")) {
+                name = "";
+            } else if (!name.isEmpty()) {
+                all.merge(name, line, (former, more) -> former + "\n" + more);
+            }
+        }
+        return all;
+    }
+
+    /** How many calls stand open at most; one that is open already is recursion, and counts once. */
+    private static int deepest(Map<String, String> bodies, String name, Set<String> open) {
+        int most = 0;
+        open.add(name);
+        for (String called : new TreeSet<>(found("\\b(\\w+)\\(", bodies.get(name)))) {
+            if (bodies.containsKey(called) && !open.contains(called)) {
+                most = Math.max(most, deepest(bodies, called, open));
+            }
+        }
+        open.remove(name);
+        return most + 1;
+    }
+
+    private static void callsAreShallow(String code) {
+        Map<String, String> bodies = bodies(code);
+        for (String name : FACE) {
+            rule(11, bodies.containsKey(name), "no method " + name + " is seen");
+            rule(11, deepest(bodies, name, new TreeSet<>()) <= 8, name + " goes too deep");
+        }
+    }
+
     public static void main(String[] args) throws Exception {
         String source = Files.readString(Path.of("src/main/java/SeamPull.java"));
         for (int i = 0; i < source.length(); i++) {
@@ -100,6 +151,8 @@ public final class LanguageTest {
         wordsAreKept(code);
         nothingIsMadeInCalls(code);
         methodsAreShort(code);
+        classesAreFew(code);
+        callsAreShallow(code);
         System.out.println("LanguageTest: " + wrong + " rules not kept");
         if (wrong != 0) {
             System.exit(1);
