@@ -124,7 +124,7 @@ public final class LanguageTest {
     private static int deepest(Map<String, String> bodies, String name, Set<String> open) {
         int most = 0;
         open.add(name);
-        for (String called : new TreeSet<>(found("\\b(\\w+)\\(", bodies.get(name)))) {
+        for (String called : new TreeSet<>(found("\\b(\\w+)\\(", bodies.getOrDefault(name, "")))) {
             if (bodies.containsKey(called) && !open.contains(called)) {
                 most = Math.max(most, deepest(bodies, called, open));
             }
